@@ -1020,15 +1020,13 @@ public final class AbsentRings {
 
         private boolean readAtom(int depth) {
             int start = from;
-            if (takesSign('(')) {
+            boolean opens = takesSign('(');
+            if (opens || takesWord("not")) {
                 if (depth >= DEEPEST) {
                     return wrongAt(start);
                 }
-                return readCondition(depth + 1) && (takesSign(')') || wrongAt(from));
-            }
-            if (takesWord("not")) {
-                if (depth >= DEEPEST) {
-                    return wrongAt(start);
+                if (opens) {
+                    return readCondition(depth + 1) && (takesSign(')') || wrongAt(from));
                 }
                 return readAtom(depth + 1) && draft.emit(Law.NOT);
             }
@@ -1038,10 +1036,6 @@ public final class AbsentRings {
             if (takesWord("three")) {
                 return draft.emit(Law.FACTS + Law.THREE);
             }
-            return readComparison();
-        }
-
-        private boolean readComparison() {
             if (!readSum()) {
                 return false;
             }
