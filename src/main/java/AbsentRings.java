@@ -388,7 +388,13 @@ public final class AbsentRings {
     }
 
     public int empty() {
-        return awayBits();
+        int bits = 0;
+        for (int p = 0; p < house.people; p++) {
+            if (table.isAway(p)) {
+                bits |= 1 << p;
+            }
+        }
+        return bits;
     }
 
     public int lasts() {
@@ -675,16 +681,6 @@ public final class AbsentRings {
             return own == 0 ? 4 : -3;
         }
         return own == 0 ? -1 : 0;
-    }
-
-    private int awayBits() {
-        int bits = 0;
-        for (int p = 0; p < house.people; p++) {
-            if (table.isAway(p)) {
-                bits |= 1 << p;
-            }
-        }
-        return bits;
     }
 
     private int mostOfAway(int[] amount) {
@@ -1713,7 +1709,11 @@ public final class AbsentRings {
 
         /** Fewest people first, then the least as bits; of all sides that win, or those that would leave. */
         int leastWinning(boolean leaving) {
-            divide();
+            if (leaving) {
+                divide();
+            } else {
+                tally();
+            }
             int living = everyone();
             int all = votes[living];
             int found = NONE;

@@ -135,6 +135,12 @@ public final class ActsTest {
         x.serve(0);
         CHECK.same("0 goes back", x.person(0, 0), 0);
         CHECK.same("2 goes back", x.person(2, 0), 0);
+        // 16838 % 100 = 38: goes; 5758 % 3 = 1: of 0, 2 and 6 to place 2; 10113: goes; 17515 % 3 = 1: of 0, 2, 3.
+        AbsentRings u = Check.told("walk 39;road 1 0;road 1 2;road 1 6;dish 00000000;person weight 1 at 1;"
+                + "person weight 1 at 4;road 4 0;road 4 2;road 4 3");
+        u.serve(0);
+        CHECK.same("in order", u.person(0, 0), 2);
+        CHECK.same("the one behind the gate", u.person(1, 0), 2);
         AbsentRings y = Check.told("walk 38;road 0 1;dish 00000000;person weight 1 at 0;person weight 1 at 0");
         // 38 is not below 38: stays, and one draw is made; 5758 % 100 = 58: stays.
         y.serve(0);
@@ -297,6 +303,9 @@ public final class ActsTest {
         CHECK.same("led 2", x.led(2, false), 0);
         CHECK.same("led 0 at night", x.led(0, true), 10);
         CHECK.same("led 2 at none", x.led(2, true), -1);
+        x.nights(4);
+        x.leave(2);
+        CHECK.same("led 2 by its one row", x.led(2, true), 14);
         CHECK.noIndex("led 3", () -> x.led(3, true));
         CHECK.noIndex("led -1", () -> x.led(-1, false));
     }

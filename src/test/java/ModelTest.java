@@ -30,7 +30,8 @@ public final class ModelTest {
 
     public static void main(String[] args) throws Exception {
         int wrong = 0;
-        for (int run = 0; run < RUNS && wrong < 3; run++) {
+        int runs = args.length > 0 ? Integer.parseInt(args[0]) : RUNS;
+        for (int run = 0; run < runs && wrong < 3; run++) {
             ModelTest test = new ModelTest(run);
             if (!test.run()) {
                 wrong++;
@@ -46,6 +47,9 @@ public final class ModelTest {
     }
 
     private boolean run() throws Exception {
+        if (random.nextInt(4) == 0 && !tell(fullHouse(), "house")) {
+            return false;
+        }
         int begins = 1 + random.nextInt(3);
         for (int i = 0; i < begins; i++) {
             if (!tell(houseText(), "house")) {
@@ -226,6 +230,15 @@ public final class ModelTest {
         int lines = random.nextInt(8) == 0 ? random.nextInt(17) : 4 + random.nextInt(11);
         for (int i = 0; i < lines && s.length() < 350; i++) {
             s.append(i == 0 ? "" : ";").append(blank()).append(houseLine()).append(blank());
+        }
+        return s.toString();
+    }
+
+    private String fullHouse() {
+        StringBuilder s = new StringBuilder("dish 12031450;dish 00112233;walk 70;limit 2;road 0 1;quota 12");
+        for (int i = 0; i < 8; i++) {
+            s.append(";person weight ").append(1 + random.nextInt(40)).append(random.nextBoolean() ? " at 0" : "")
+                    .append(" vote ").append(random.nextInt(9));
         }
         return s.toString();
     }

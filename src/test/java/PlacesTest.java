@@ -135,6 +135,8 @@ public final class PlacesTest {
         CHECK.same("no way", x.meet(0, 5), -1);
         CHECK.noArgument("both are one", () -> x.meet(4, 4));
         CHECK.noIndex("6", () -> x.meet(6, 6));
+        CHECK.noIndex("6 and 0", () -> x.meet(6, 0));
+        CHECK.noIndex("-1 and 0", () -> x.meet(-1, 0));
         CHECK.noIndex("-1", () -> x.meet(0, -1));
         x.serve(0);
         x.off(3);
@@ -155,7 +157,8 @@ public final class PlacesTest {
         CHECK.same("never: paths", Check.tape(x, 0, 9, 0, 1).where(true), 0);
         Check.law(x, "more 5");
         CHECK.same("no law", Check.tape(x, 0, 1).where(false), 6);
-        for (int[] wrong : new int[][] {{0}, {0, 1, 0}, {2, 1}, {255, 1}, {0, 10}, {0, 255}, new int[42]}) {
+        for (int[] wrong : new int[][] {{0}, {0, 1, 0}, {2, 1}, {255, 1}, {0, 10}, {0, 255}, {0, 1, 0, 10},
+            {0, 1, 2, 1}, new int[42]}) {
             Check.tape(x, wrong);
             CHECK.noArgument("where", () -> x.where(false));
             CHECK.isFalse("the tape is used up", x.end(1));
@@ -212,6 +215,9 @@ public final class PlacesTest {
         CHECK.same("dishes that part nothing", Check.tape(y, 0, 0).next(), 0);
         AbsentRings z = new AbsentRings();
         CHECK.same("without dishes", z.next(), -1);
+        // At 0 or 1: dish 0 does not tell them apart, dish 1 does.
+        AbsentRings v = Check.told("road 0 1;dish 00000009;dish 90111111");
+        CHECK.same("the gate counts, too", Check.tape(v, 1, 9).next(), 1);
     }
 
     private static void apart() {

@@ -35,6 +35,10 @@ public final class RingsTest {
         CHECK.same("coldest: none", x.coldest(), -1);
         x.rise(3);
         CHECK.same("chairs", x.chairs(), 4);
+        AbsentRings z = Check.told("walk 0;dish 00000000;person weight 9 at 3;person weight 8 at 2");
+        CHECK.same("the first one's ring", z.empty(), 3);
+        CHECK.same("the first one's is heaviest", z.heaviest(), 0);
+        CHECK.same("the first one is coldest", z.coldest(), 0);
         AbsentRings y = new AbsentRings();
         CHECK.same("of nobody", y.chairs() + y.empty() + y.lasts() + y.alike(), 0);
     }
@@ -176,6 +180,36 @@ public final class RingsTest {
         CHECK.same("as the nights themselves", z.person(0, 0) == 0 ? 1 : 0, before);
     }
 
+    private static int coldFrom(String house, int seed, int n) {
+        AbsentRings z = Check.told(house);
+        z.seed(seed);
+        z.nights(n);
+        return z.person(0, 6) + z.person(1, 6);
+    }
+
+    /** For many houses, as some have their least or greatest from SEED 6, and some would have it from 7. */
+    private static void spanOfSix() {
+        int sixth = 0;
+        int seventh = 0;
+        for (int walk = 20; walk < 100; walk += 3) {
+            String house = "walk " + walk + ";road 0 1;road 1 2;road 0 3;dish 10000000;person weight 1 at 0;"
+                    + "person weight 1 at 2";
+            int least = Integer.MAX_VALUE;
+            int most = -1;
+            for (int seed = 1; seed <= 6; seed++) {
+                int sum = coldFrom(house, seed, 20);
+                sixth += seed == 6 && (sum < least || sum > most) ? 1 : 0;
+                least = Math.min(least, sum);
+                most = Math.max(most, sum);
+            }
+            int beyond = coldFrom(house, 7, 20);
+            seventh += beyond < least || beyond > most ? 1 : 0;
+            CHECK.same("least by " + walk, Check.told(house).span(20, false), least);
+            CHECK.same("most by " + walk, Check.told(house).span(20, true), most);
+        }
+        CHECK.isTrue("seeds 6 and 7 matter", sixth > 0 && seventh > 0);
+    }
+
     private static void span() {
         AbsentRings x = Check.told("walk 0;dish 00000000;person weight 1 at 0;person weight 1 at 5;person weight 1");
         CHECK.same("without walking: least", x.span(7, false), 14);
@@ -202,6 +236,7 @@ public final class RingsTest {
         CHECK.same("most", y.span(10, true), most);
         CHECK.same("nothing stays", y.count(4) + y.count(11) + y.count(12), 0);
         CHECK.same("the seed stays", y.seed(1), 12345);
+        spanOfSix();
         CHECK.same("of nobody", new AbsentRings().span(60, false), 0);
     }
 }

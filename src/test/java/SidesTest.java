@@ -80,6 +80,7 @@ public final class SidesTest {
         CHECK.same("nobody wins", votes(9, 2, 2, 1).minimal(), 0);
         CHECK.same("dummies if nobody wins", votes(9, 2, 2, 1).dummies(), 7);
         CHECK.same("quota 0: nobody wins first", votes(0, 2, 2).minimal(), 1);
+        CHECK.same("all alone", votes(6, 3, 2, 1).minimal(), 1);
         CHECK.same("quota 0: swings", votes(0, 2, 2).swings(0), 0);
         CHECK.same("quota 0: pivots", votes(0, 2, 2).pivots(1), 0);
         for (int p : new int[] {-1, 3}) {
@@ -153,6 +154,10 @@ public final class SidesTest {
         CHECK.same("together", sum, 100);
         // 0 and 1 have 19 of 21 votes, 90 hundredths, and 68 by swings.
         CHECK.same("0 and 1 would leave", z.leaves(), 3);
+        // Swings 2, 2, 6, 2: what is left goes to the third one.
+        AbsentRings u = votes(11, 1, 1, 10, 9);
+        CHECK.same("split 0", u.split(0), 16);
+        CHECK.same("split 2", u.split(2), 52);
         AbsentRings v = votes(3, 3, 1, 1);
         CHECK.same("one has all", v.split(0), 100);
         CHECK.same("the others nothing", v.split(1) + v.split(2), 0);
@@ -165,6 +170,7 @@ public final class SidesTest {
         CHECK.same("leaves", x.leaves(), -1);
         CHECK.same("quota 0 with votes", votes(0, 2, 1).leaves(), 1);
         CHECK.same("no side wins", votes(4, 2, 1).leaves(), -1);
+        CHECK.same("one vote in all", votes(0, 0, 1).leaves(), 2);
         CHECK.same("split if none wins", votes(4, 2, 1).split(0), 0);
     }
 
@@ -193,6 +199,15 @@ public final class SidesTest {
         CHECK.same("nobody keen", Check.tape(x, new int[16]).brides(-1), 0);
         CHECK.same("nobody keen: none", Check.tape(x, new int[16]).brides(1), -1);
         CHECK.same("of nobody", new AbsentRings().brides(-1), 0);
+        AbsentRings y = people(2);
+        CHECK.same("one keen alone", Check.tape(y, 0, 9, 0, 0).brides(-1), 0);
+        CHECK.same("the other one alone", Check.tape(y, 0, 0, 9, 0).brides(-1), 0);
+        CHECK.same("and none promised", Check.tape(y, 0, 0, 9, 0).brides(0), -1);
+        CHECK.same("nor the other one", Check.tape(y, 0, 0, 9, 0).brides(1), -1);
+        AbsentRings z = people(4);
+        // 0 and 2: 18; 2 and 3: 16, which would be the best without 0; 1 is keen on none.
+        int[] chain = {0, 0, 9, 0, 0, 0, 0, 0, 9, 0, 0, 8, 0, 0, 8, 0};
+        CHECK.same("3 is left without 2", Check.tape(z, chain).brides(3), -1);
     }
 
     private static void bridesFirstWay() {
@@ -291,6 +306,8 @@ public final class SidesTest {
     private static void heirs() {
         AbsentRings x = people(4);
         CHECK.same("none", x.heir(0), -1);
+        x.promise(0, 2);
+        CHECK.same("the first one", x.heir(2), 0);
         x.promise(3, 0);
         x.promise(1, 0);
         CHECK.same("the least", x.heir(0), 1);

@@ -103,7 +103,9 @@ public final class TextsTest {
         CHECK.same("without blanks: vote", x.person(5, 1), 3);
         CHECK.same("noughts ahead", x.count(6), 7);
         CHECK.same("texts", x.count(2), 2);
-        Check.text(x, "promise 3 5; promise 5 3").house();
+        Check.text(x, "promise 3 5; promise 5 3;night 0;iron 0;quota 0;limit 1;walk 0").house();
+        CHECK.same("the least of all", x.count(4) + x.count(8) + x.count(5) + x.count(7) + x.count(6), 1);
+        Check.text(x, "iron 999").house();
         CHECK.same("promised anew", x.person(3, 4), 5);
         CHECK.same("the ring told is in no log, and costs no iron", x.count(11) + x.count(8), 999);
     }
@@ -132,6 +134,11 @@ public final class TextsTest {
         houseFault("  x", 2);
         houseFault("Road 2 3", 0);
         houseFault("roads 2 3", 0);
+        houseFault("roadz 2 3", 0);
+        houseFault("road 8 3", 5);
+        houseFault("road 9 3", 5);
+        houseFault("person weight 3 at 8", 19);
+        houseFault("person weight 3 at 9", 19);
         houseFault("road", 4);
         houseFault("road  ", 6);
         houseFault("road 2", 6);
@@ -230,8 +237,21 @@ public final class TextsTest {
         CHECK.same("its fault", x.fault(), lines.length() + 2);
         CHECK.same("the one before stays", x.count(3), 12);
         CHECK.same("acts stay", x.count(12), 1);
+        CHECK.same("the least and the most", Check.text(x, "more 0;less 0;more 30").law(), 3);
+        CHECK.same("33", x.eats(0, 0, 0), 33);
+        x.vote(0, 2);
         Check.text(x, "off").law();
         CHECK.same("a text: no acts", x.count(12), 0);
+        StringBuilder longest = new StringBuilder(" more 1 if 1");
+        while (longest.length() < 398) {
+            longest.append("+1");
+        }
+        longest.append(">0");
+        CHECK.same("as long as the tape", longest.length(), 400);
+        for (int i = 0; i < 5; i++) {
+            CHECK.same("a long text", Check.text(x, longest.toString()).law(), 1);
+            CHECK.same("holds", x.eats(0, 0, 0), 4);
+        }
         CHECK.same("no fault", x.fault(), -1);
     }
 
