@@ -1,14 +1,11 @@
 /** Counts answers that are not as due, prints them, and ends the test. */
 final class Check {
-    interface Call {
-        long answer();
-    }
-
     interface Deed {
         void act();
     }
 
     private final String name;
+    private String sentence = "";
     private int asked;
     private int wrong;
 
@@ -16,13 +13,23 @@ final class Check {
         this.name = name;
     }
 
+    /** The sentence by which the answers behind this are due: of a promise, or (0) of what stands ahead of all. */
+    void says(int promise, String words) {
+        sentence = "[" + promise + ": " + words + "] ";
+        isTrue("the document says so", Doc.says(promise, words));
+    }
+
     void same(String what, long got, long due) {
         asked++;
         if (got != due) {
-            wrong++;
-            if (wrong <= 40) {
-                System.out.println(what + " answered " + got + ", due is " + due);
-            }
+            miss(what + " answered " + got + ", due is " + due);
+        }
+    }
+
+    private void miss(String line) {
+        wrong++;
+        if (wrong <= 40) {
+            System.out.println(sentence + line);
         }
     }
 
@@ -44,8 +51,7 @@ final class Check {
             got = e.getClass();
         }
         if (got != due) {
-            wrong++;
-            System.out.println(what + " threw " + (got == null ? "nothing" : got.getSimpleName())
+            miss(what + " threw " + (got == null ? "nothing" : got.getSimpleName())
                     + ", due is " + due.getSimpleName());
         }
     }
