@@ -329,6 +329,13 @@ public final class ActEdgesTest {
         CHECK.same("dish 0, also without dishes", y.person(0, 7), 0);
         Check.law(y, "off if dish > 0;off if dish < 1 and place > 1 and place < 3");
         CHECK.same("some holds", y.person(0, 7), 1);
+        Check.law(y, "off if 2<1;off if 2<1;off if 2<1;off if 2<1;off if 2<1;off if 2<1;off if 2<1;off if 2<1;off if 2<1;"
+                + "off if 2<1;off if 2<1;off if 2<1");
+        CHECK.same("none of twelve holds", y.person(0, 7), 0);
+        Check.law(y, "off if 2<1;off if 1<2");
+        CHECK.same("the last holds", y.person(0, 7), 1);
+        Check.law(y, "off if 2<1");
+        CHECK.same("a line of the law before does not", y.person(0, 7), 0);
         Check.law(y, "off if dish + 1 > 0");
         CHECK.same("dish 0, not below", y.person(0, 7), 1);
         Check.text(y, "dish 00000000").house();

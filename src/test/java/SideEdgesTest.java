@@ -97,6 +97,7 @@ public final class SideEdgesTest {
         CHECK.same("one is in each", votes(2, 2, 1).needed(), 1);
         CHECK.same("none is in each", votes(1, 2, 1).needed(), 0);
         CHECK.same("quota 0: nobody wins", votes(0, 2, 1).needed(), 0);
+        CHECK.same("quota 0: nobody wins, and one alone", votes(0, 2).needed(), 0);
         CHECK.same("without people", new AbsentRings().needed(), 0);
         AbsentRings x = votes(3, 2, 1, 1);
         CHECK.same("0 and one of two", x.needed(), 1);
