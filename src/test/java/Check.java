@@ -26,6 +26,13 @@ final class Check {
         }
     }
 
+    void same(String what, String got, String due) {
+        asked++;
+        if (!got.equals(due)) {
+            miss(what + " answered " + got + ", due is " + due);
+        }
+    }
+
     private void miss(String line) {
         wrong++;
         if (wrong <= 40) {
